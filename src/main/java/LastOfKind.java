@@ -989,32 +989,32 @@ public final class LastOfKind {
             things = house.all();
             hidden = house.hidden;
             guarded = house.guarded;
-            ahead = lead(turns, house.broken, house.claimed, -MUCH, MUCH);
+            ahead = lead(this, turns, house.broken, house.claimed, -MUCH, MUCH);
         }
 
         /**
          * By how much who is at turn gets ahead. What can not come out between low and high need not be told
          * exactly: the other one would not let it come so far, or there is a better move already.
          */
-        private int lead(int turns, int broken, int claimed, int low, int high) {
+        private static int lead(Museums game, int turns, int broken, int claimed, int low, int high) {
             if (turns <= 0) {
-                firstMove = 0;
+                game.firstMove = 0;
                 return 0;
             }
-            int claims = goods.lastAmong(things & ~broken & ~hidden) & ~claimed;
+            int claims = game.goods.lastAmong(game.things & ~broken & ~game.hidden) & ~claimed;
             if (turns == 1) {
-                return leadByLastTurn(claims);
+                return game.leadByLastTurn(claims);
             }
-            int breaks = things & ~broken & ~claimed & ~guarded;
+            int breaks = game.things & ~broken & ~claimed & ~game.guarded;
             int best = -MUCH;
             int bestMove = 0;
             for (int move = 0; move <= MOST_MOVE && best < high; move++) {
                 int claim = move < BREAKS ? 1 << move >> CLAIMS & claims : 0;
                 int broke = move < BREAKS ? 0 : 1 << move - BREAKS & breaks;
                 if (move == 0 || (claim | broke) != 0) {
-                    int gain = gainOf(move);
+                    int gain = game.gainOf(move);
                     int left = gain - Math.max(low, best);
-                    int then = gain - lead(turns - 1, broken | broke, claimed | claim, gain - high, left);
+                    int then = gain - lead(game, turns - 1, broken | broke, claimed | claim, gain - high, left);
                     if (then > best) {
                         best = then;
                         bestMove = move;
@@ -1022,7 +1022,7 @@ public final class LastOfKind {
                 }
             }
             // Written last of all by the first turn, behind all turns that it looked ahead to.
-            firstMove = bestMove;
+            game.firstMove = bestMove;
             return best;
         }
 
