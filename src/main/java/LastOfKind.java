@@ -39,7 +39,7 @@ public final class LastOfKind {
         trial = new House();
         row = new Row();
         slots = new House[SLOTS];
-        for (int slot = 0; slot < SLOTS; slot++) {
+        for (int slot = 0; slot < slots.length; slot++) {
             slots[slot] = new House();
         }
         plans = new Plans();
@@ -377,13 +377,17 @@ public final class LastOfKind {
     }
 
     private static int at(int[] row, int place) {
-        return place >= 0 && place < row.length ? row[place] : 0;
+        return row != null && place >= 0 && place < row.length ? row[place] : 0;
     }
 
     private static void put(int[] row, int place, int value) {
-        if (place >= 0 && place < row.length) {
+        if (row != null && place >= 0 && place < row.length) {
             row[place] = value;
         }
+    }
+
+    private static int[] rowAt(int[][] rows, int place) {
+        return rows != null && place >= 0 && place < rows.length ? rows[place] : null;
     }
 
     /** The letters from which a house is read. */
@@ -638,7 +642,7 @@ public final class LastOfKind {
         int length;
 
         Row() {
-            for (int place = 0; place < MOST_ACTS; place++) {
+            for (int place = 0; place < before.length; place++) {
                 before[place] = new House();
             }
         }
@@ -837,14 +841,16 @@ public final class LastOfKind {
             for (int thing = 0; thing < house.size; thing++) {
                 owned |= house.figure(thing, OWNER) == owner ? 1 << thing : 0;
             }
-            choosable[owner] = (prey & ~owned) << 1 | 1;
-            for (int broken = 0; broken < prices[owner].length; broken++) {
+            put(choosable, owner, (prey & ~owned) << 1 | 1);
+            int[] pricesOf = rowAt(prices, owner);
+            for (int broken = 0; broken < 1 << MOST_THINGS; broken++) {
                 if ((broken & ~prey) == 0 && Integer.bitCount(broken) <= MOST_BROKEN) {
-                    prices[owner][broken] = goods.pricesAmong(owned, shown & ~broken);
+                    put(pricesOf, broken, goods.pricesAmong(owned, shown & ~broken));
                 }
             }
-            for (int others = 0; others < best[owner].length; others++) {
-                best[owner][others] = -MUCH;
+            int[] bestOf = rowAt(best, owner);
+            for (int others = 0; others < CHOICES * CHOICES; others++) {
+                put(bestOf, others, -MUCH);
             }
         }
 
@@ -852,7 +858,7 @@ public final class LastOfKind {
             for (int first = 0; first < CHOICES; first++) {
                 for (int second = 0; second < CHOICES; second++) {
                     for (int third = 0; third < CHOICES; third++) {
-                        if ((choosable[0] >> first & choosable[1] >> second & choosable[2] >> third & 1) == 0) {
+                        if (!mayChoose(first, second, third)) {
                             continue;
                         }
                         if (!bestIsKnown) {
@@ -863,6 +869,10 @@ public final class LastOfKind {
                     }
                 }
             }
+        }
+
+        private boolean mayChoose(int first, int second, int third) {
+            return (at(choosable, 0) >> first & at(choosable, 1) >> second & at(choosable, 2) >> third & 1) != 0;
         }
 
         private void tell(int rest) {
@@ -878,18 +888,19 @@ public final class LastOfKind {
         }
 
         private void raise(int owner, int others, int value) {
-            put(best[owner], others, Math.max(at(best[owner], others), value));
+            int[] bestOf = rowAt(best, owner);
+            put(bestOf, others, Math.max(at(bestOf, others), value));
         }
 
         private boolean isRest(int first, int second, int third) {
             int broken = (1 << first | 1 << second | 1 << third) >> 1;
-            return has(0, first, broken) >= at(best[0], second * CHOICES + third)
-                && has(1, second, broken) >= at(best[1], first * CHOICES + third)
-                && has(2, third, broken) >= at(best[2], first * CHOICES + second);
+            return has(0, first, broken) >= at(rowAt(best, 0), second * CHOICES + third)
+                && has(1, second, broken) >= at(rowAt(best, 1), first * CHOICES + third)
+                && has(2, third, broken) >= at(rowAt(best, 2), first * CHOICES + second);
         }
 
         private int has(int owner, int choice, int broken) {
-            return at(prices[owner], broken) - (choice == 0 ? 0 : goods.cost(choice - 1));
+            return at(rowAt(prices, owner), broken) - (choice == 0 ? 0 : goods.cost(choice - 1));
         }
     }
 
