@@ -905,6 +905,15 @@ final class PromiseSentences {
             x.broken(2);
             due("once more", x.again(1), 3);
             due("the slot was not broken", x.count(8), 0);
+            x.seed(5);
+            x.sight(0, 1, true);
+            x.keep(0);
+            due("a keeping leaves the seed", x.seed(6), 5);
+            x.sight(1, 1, true);
+            x.again(0);
+            due("what is sighted is not kept", x.count(10), 2);
+            due("nor the seed", x.seed(0), 6);
+            due("nor the text", x.count(0), 29);
             LastOfKind none = new LastOfKind();
             none.keep(0);
             none.forge(1, 1);

@@ -731,6 +731,13 @@ final class TermsSentences {
             x.hide(4);
             x.sight(4, 1, true);
             due("of a hidden one, itself", x.worlds(1), 16);
+            LastOfKind near = forged(2, 1111, 1122, 2222);
+            near.hide(1);
+            near.sight(0, 2, true);
+            near.sight(2, 2, true);
+            due("alike by two to both", near.worlds(1), 2);
+            near.word(3);
+            due("alike by three to none", near.worlds(0), 0);
         });
         test("6 such at most, none at first", () -> {
             LastOfKind x = forged(4, 1111);
@@ -920,6 +927,8 @@ final class TermsSentences {
             due("2 draws again", x.seed(0), seedAfter(2));
             // From 0 the draws are 7, 4, 7, 6: by 5 the second one, 5, goes, and 4 is drawn for by 7.
             due("by number", x.years(1, 5), 22);
+            // From 0 the draws are 7, 4, 7, and then 6, 5 for the two that are left: by 6 the second and the third go.
+            due("once for each, then once more", forged(4, 1111, 2222, 3333).years(2, 6), 1);
         });
         test("x (THE SEED, a long; 0 at first) becomes x times 6364136223846793005 and 1442695040888963407 (64 bits,"
             + " wrapping)", () -> {
@@ -998,6 +1007,7 @@ final class TermsSentences {
             due("the year", x.count(3), 1);
             due("1 goes on", x.again(1), 7);
             due("the forged one", Sentences.marksOf(x, 6), 4321);
+            due("letters", x.count(0), 56);
             due("the word", x.count(2), 1);
             due("the year", x.count(3), 2);
             due("the guard of 2", x.thing(2, 7), 0);
